@@ -426,12 +426,18 @@ public final class CoachesVote {
         if (n < 1 || n > MOST_RUNS_OF_MOVES) {
             return NONE;
         }
-        int most = outMoreAsItIs(n);
+        trial.copyFrom(train);
+        int most = outMoreIn(n, net, rule, false);
         int who = NONE;
         int where = NONE;
         for (int passenger = 0; passenger < riders.number; passenger++) {
             for (int coach = 0; coach < train.coaches; coach++) {
-                int more = canMove(passenger, coach) ? outMoreIfMoved(passenger, coach, n) : NONE;
+                int more = NONE;
+                if (canMove(passenger, coach)) {
+                    trial.copyFrom(train);
+                    trial.seats[passenger] = coach;
+                    more = outMoreIn(n, net, rule, false);
+                }
                 if (more > most) {
                     most = more;
                     who = passenger;
@@ -449,10 +455,14 @@ public final class CoachesVote {
         if (n < 1 || n > MOST_RUNS_OF_MOVES) {
             return NONE;
         }
-        int most = outMoreAsItIs(n);
+        trial.copyFrom(train);
+        int most = outMoreIn(n, net, rule, false);
         int best = -3;
         for (int exit = 0; exit < 2 * net.halts; exit++) {
-            int more = net.to[exit] == NONE ? NONE : outMoreIfClosed(exit, n);
+            spareNet.copyFrom(net);
+            spareNet.shut(exit);
+            trial.copyFrom(train);
+            int more = outMoreIn(n, spareNet, rule, false);
             if (more > most) {
                 most = more;
                 best = exit;
@@ -487,7 +497,8 @@ public final class CoachesVote {
         }
         trial.copyFrom(train);
         int byIt = outMoreIn(10, net, spareRule, false);
-        int asItIs = outMoreAsItIs(10);
+        trial.copyFrom(train);
+        int asItIs = outMoreIn(10, net, rule, false);
         told.clear();
         told.add(byIt);
         told.add(asItIs);
@@ -871,26 +882,6 @@ public final class CoachesVote {
         return outMoreThan(train, trial);
     }
 
-    private int outMoreAsItIs(int n) {
-        trial.copyFrom(train);
-        return outMoreIn(n, net, rule, false);
-    }
-
-    private int outMoreIfMoved(int passenger, int coach, int n) {
-        trial.copyFrom(train);
-        trial.seats[passenger] = coach;
-        return outMoreIn(n, net, rule, false);
-    }
-
-    private int outMoreIfClosed(int exit, int n) {
-        spareNet.copyFrom(net);
-        spareNet.to[exit] = NONE;
-        spareNet.minutes[exit] = 0;
-        spareNet.measure();
-        trial.copyFrom(train);
-        return outMoreIn(n, spareNet, rule, false);
-    }
-
     private int runsTillOut(int passenger, int most) {
         int runs = 0;
         boolean goesOn = true;
@@ -1074,6 +1065,12 @@ public final class CoachesVote {
             to[exit] = halt;
             minutes[exit] = digit + 1;
             return p + 2;
+        }
+
+        void shut(int exit) {
+            to[exit] = NONE;
+            minutes[exit] = 0;
+            measure();
         }
 
         /** Finds all shortest ways anew. */

@@ -44,6 +44,19 @@ public final class SeatsTest {
         y.go(0, 1);
         y.undo();
         Check.same("coaches of the train alone", y.seat(0), 1);
+        // Two in coach 1 have votes at once, in coach 0 it has one from minute 1 on alone.
+        CoachesVote z = Check.told(RING, "a+", "0b1;1b1");
+        z.couple();
+        Check.say(z, "(c=1)*(k>1)+(n>0)").rule();
+        Check.same("where it sits, in two", z.arrives(0), 2);
+        Check.same("one fewer", z.seat(0), 1);
+        Check.row("one fewer", z, 1);
+        CoachesVote w = Check.told(RING, "+", "0b1");
+        Check.say(w, "n>28").rule();
+        Check.same("in 30", w.seat(0), 0);
+        Check.row("in 30", w, 30);
+        Check.say(w, "n>29").rule();
+        Check.same("in 31", w.seat(0), -2);
     }
 
     private static void reseats() {
@@ -153,6 +166,10 @@ public final class SeatsTest {
         Check.say(y, "0").rule();
         Check.same("the tenth run", Check.say(y, "n>8").law(), 1);
         Check.same("the eleventh run", Check.say(y, "n>9").law(), 0);
+        Check.say(y, "n>8").rule();
+        Check.same("the tenth run by the rule", Check.say(y, "0").law(), -1);
+        Check.say(y, "n>9").rule();
+        Check.same("the eleventh run by the rule", Check.say(y, "0").law(), 0);
     }
 
     private static void heads() {

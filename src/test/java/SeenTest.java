@@ -97,6 +97,8 @@ public final class SeenTest {
         x.seen(2, 1, 1);
         Check.same("nobody can be at b behind 2", x.rows(), 0);
         CoachesVote y = new CoachesVote();
+        y.seen(0, 0, 1);
+        Check.same("a new object's only halt", y.rows(), 1);
         y.seen(1, 0, 0);
         Check.same("without exits no step", y.rows(), 0);
     }
