@@ -72,6 +72,10 @@ final class Check {
         return x;
     }
 
+    static int wrongs() {
+        return wrong;
+    }
+
     static void finish(String name) {
         System.out.println(name + ": " + looked + " answers, " + wrong + " not as due");
         System.exit(wrong == 0 ? 0 : 1);
