@@ -83,6 +83,13 @@ final class Looks {
         same(what + " changes nothing but the row", behind(state, call), state, false);
     }
 
+    /** The call reads this text, answers so, and changes nothing but the ROW and THE TEXT, which is empty then. */
+    static void askedText(String what, State state, String text, Call call, long due) {
+        State told = () -> Check.say(state.make(), text);
+        Check.same(what + " of " + text, call.on(told.make()), due);
+        same(what + " of " + text + " changes nothing but the row", behind(told, call), behind(state, y -> y.end(0) ? 1 : 0), false);
+    }
+
     // ---- the looks
 
     private static List<Long> surface(CoachesVote x, boolean withRow) {

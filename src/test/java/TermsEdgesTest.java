@@ -717,8 +717,7 @@ public final class TermsEdgesTest {
         Looks.asked("count", busy, x -> x.count(9), 3);
         Looks.asked("row", busy, x -> x.row(2), 3);
         // law() reads THE TEXT, and empties it.
-        Looks.State toldLaw = () -> Check.say(Looks.busy(), "");
-        Looks.asked("law", toldLaw, CoachesVote::law, 0);
+        Looks.askedText("law", busy, "9-r", CoachesVote::law, 0);
     }
 
     private static void refusedCalls() {
