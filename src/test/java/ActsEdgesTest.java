@@ -69,6 +69,8 @@ public final class ActsEdgesTest {
         CoachesVote y = Check.told("3:b9-;--;--", "++", "0b2;1c1");
         Check.same("left", y.run(), 0);
         Check.row("nine minutes", y, 0b10, 0b01, 9);
+        Check.same("stays", y.run(), 2);
+        Check.row("a minute behind nine", y, 0, 0, 1);
         CoachesVote z = Check.told(RING, "+++", "0c2;1c1;2c1");
         Check.same("left", z.run(), 0);
         Check.row("none is left, none is out", z, 0, 0, 2);

@@ -54,6 +54,14 @@ public final class ChanceEdgesTest {
         odds(like, 0, 3, 7, 10);
         odds(like, 1, 3, 21, 100);
         odds(like, 2, 3, 9, 100);
+        // Those for stay count, too: it stays, if the second one is there, or neither.
+        CoachesVote stay = Check.told(FORK, "+", "0b1;0d2");
+        odds(stay, 0, 2, 4, 25);
+        odds(stay, 1, 2, 0, 1);
+        odds(stay, 2, 2, 21, 25);
+        CoachesVote likeStay = Check.told(FORK, "+", "0c2;0d2");
+        odds(likeStay, 1, 2, 4, 5);
+        odds(likeStay, 2, 2, 1, 5);
         // Without votes it stays, whoever is there.
         CoachesVote voteless = Check.told(FORK, "+", "0b1;0c1");
         Check.say(voteless, "0").rule();
@@ -228,6 +236,10 @@ public final class ChanceEdgesTest {
             Check.same("coupled", x.nights(next, 2), 2);
             Check.row("no time goes by coupling", x, 2, 1);
         }
+        // A run is by passengers, not by heads: right, and nobody is there.
+        CoachesVote votes = Check.told(FORK, "++", "0b1;1c3");
+        Check.same("a run", votes.nights(0, 1), 0);
+        Check.row("at c", votes, 1, 2);
         int seed = seedOf(new int[] {5, 5}, new int[] {3, 0});
         CoachesVote none = Check.told(RING, "+b", "0b1;1c1");
         Check.same("none stands there", none.nights(seed, 2), 1);

@@ -1,4 +1,7 @@
 import java.io.IOException;
+import java.util.ArrayList;
+import java.util.List;
+import java.util.Random;
 
 /** The edges that promises 27 to 32 name: seat, reseat, close, fetch, law, heads. */
 public final class SeatsEdgesTest {
@@ -63,6 +66,9 @@ public final class SeatsEdgesTest {
             Check.same("behind " + minutes, x.seat(0), 0);
             Check.row("behind " + minutes, x, minutes + 1);
         }
+        CoachesVote right = Check.told("9:-b1;-c1;-d1;-e1;-f1;-g1;-h1;-i1;--", "+", "0i1");
+        Check.same("by right exits", right.seat(0), 0);
+        Check.row("by right exits", right, 8);
         // With two in coach 1 both have votes at once; in coach 0 it has one from minute 1 on.
         CoachesVote y = Check.told(RING, "a+", "0b1;1b1");
         y.couple();
@@ -147,6 +153,9 @@ public final class SeatsEdgesTest {
         reseat(Check.told(FORK, "+", "0b1;0b1;0b1"), 1, 3, -1, -1);
         reseat(Check.told(FORK, "++", "0d1;1d1"), 12, 0, -1, -1);
         reseat(new CoachesVote(), 1, 0, -1, -1);
+        reseat(Check.told(FORK, "++++++", "0b1;".repeat(11) + "0b1"), 12, 12, -1, -1);
+        // By heads left would win, and one be out, as things are; but heads do not count.
+        reseat(Check.told(FORK, "++", "0b1;1c3"), 1, 1, 1, 0);
     }
 
     private static void reseatLikeOnes() {
@@ -210,6 +219,8 @@ public final class SeatsEdgesTest {
             close(ruled(Check.told(DETOUR, "++", "0c4;1b2"), late), n - 1, -3, 1);
         }
         close(Check.told(DETOUR, "++", "0b2;1c4"), 1, 1, 1);
+        // By heads the train would go left with a's right exit closed; but heads do not count.
+        close(Check.told(FORK, "++", "0b2;1c4"), 1, -3, 0);
     }
 
     private static void closeLikeOnes() {
@@ -291,6 +302,58 @@ public final class SeatsEdgesTest {
         fetch(Check.told("3:b2c1;c2-;b2-", "bc", ""), 1, 3, 2, 1);
         fetch(Check.told("3:b1c1;c1-;b1-", "bc", ""), 1, 2, 2, 1);
         fetch(Check.told("3:b1c1;c1a1;b1a1", "bc", ""), 0, 3, 1, 2);
+        allOrders();
+    }
+
+    /** Nets of all kinds, against all orders, gone through one by one. */
+    private static void allOrders() {
+        for (int seed = 1; seed <= 60; seed++) {
+            Random random = new Random(seed);
+            StringBuilder net = new StringBuilder("7:");
+            for (int exit = 0; exit < 14; exit++) {
+                // The left exits make a ring, so that all can be come to.
+                int to = exit % 2 == 0 ? (exit / 2 + 1) % 7 : random.nextInt(7);
+                net.append(exit > 0 && exit % 2 == 0 ? ";" : "").append((char) ('a' + to)).append(1 + random.nextInt(4));
+            }
+            StringBuilder coaches = new StringBuilder();
+            for (int i = 0; i <= seed % 6; i++) {
+                coaches.append((char) ('a' + random.nextInt(7)));
+            }
+            CoachesVote x = Check.told(net.toString(), coaches.toString(), "");
+            int last = random.nextInt(7);
+            List<Integer> goals = coaches.chars().map(c -> c - 'a').distinct().sorted().boxed().toList();
+            int[] best = {Integer.MAX_VALUE};
+            List<Integer> order = new ArrayList<>();
+            goOn(x, goals, new ArrayList<>(), last, best, order);
+            fetch(x, last, best[0], order.stream().mapToLong(i -> i).toArray());
+        }
+    }
+
+    /** All orders from the least on, so that a later one is better only if it is shorter. */
+    private static void goOn(CoachesVote x, List<Integer> goals, List<Integer> gone, int last, int[] best,
+            List<Integer> order) {
+        if (gone.size() == goals.size()) {
+            int minutes = 0;
+            int at = 0;
+            for (int goal : gone) {
+                minutes += x.way(at, goal);
+                at = goal;
+            }
+            minutes += x.way(at, last);
+            if (minutes < best[0]) {
+                best[0] = minutes;
+                order.clear();
+                order.addAll(gone);
+            }
+            return;
+        }
+        for (int goal : goals) {
+            if (!gone.contains(goal)) {
+                gone.add(goal);
+                goOn(x, goals, gone, last, best, order);
+                gone.remove(gone.size() - 1);
+            }
+        }
     }
 
     private static void cannotFetch() {

@@ -100,6 +100,19 @@ public final class SeenEdgesTest {
             Check.same("one row", x.rows(), 1);
             Check.row("of one step", x, 0);
         }
+        for (int k = 0; k <= 12; k++) {
+            CoachesVote x = Check.told(PAIR, "", "");
+            x.seen(k, 0, 0);
+            x.seen(k, 1, 0);
+            Check.same("nowhere behind " + k, x.rows(), 0);
+            Check.same("two", x.forget(), 2);
+            x.seen(k, 0, 1);
+            Check.same("at a behind " + k, x.rows(), k == 0 ? 1 : 1 << k - 1);
+            x.seen(k, 0, 0);
+            Check.same("the same net", Check.say(x, PAIR).net(), 2);
+            x.seen(k, 0, 1);
+            Check.same("forgotten by net()", x.rows(), k == 0 ? 1 : 1 << k - 1);
+        }
     }
 
     // ---- promise 35
@@ -176,6 +189,41 @@ public final class SeenEdgesTest {
         right.seen(12, 0, 1);
         Check.same("one row", right.rows(), 1);
         Check.row("right alone", right, 1, 1, 1, 1, 1, 1, 1, 1, 1, 1, 1, 1);
+        allRows();
+    }
+
+    /** Nine halts with exits of all kinds: all rows, gone through one by one. */
+    private static void allRows() {
+        int[][] to = {{1, 4}, {2, 5}, {-1, 3}, {7, 0}, {8, -1}, {4, 6}, {3, 3}, {-1, -1}, {1, 2}};
+        CoachesVote x = Check.told("9:b1e1;c1f1;-d1;h1a1;i1-;e1g1;d1d2;--;b1c1", "", "");
+        for (int k = 0; k <= 12; k++) {
+            for (int halt = 0; halt < 9; halt++) {
+                int number = 0;
+                int least = -1;
+                int middle = 0;
+                for (int row = 0; row < 1 << k; row++) {
+                    int at = 0;
+                    int halfway = 0;
+                    for (int step = k - 1; step >= 0 && at >= 0; step--) {
+                        at = to[at][row >> step & 1];
+                        halfway = step == k / 2 ? at : halfway;
+                    }
+                    if (at == halt) {
+                        least = number == 0 ? row : least;
+                        number++;
+                        middle |= 1 << halfway;
+                    }
+                }
+                x.forget();
+                x.seen(k, halt, 1);
+                Check.same("rows to " + halt + " in " + k, x.rows(), number);
+                Check.same("steps", x.count(10), number > 0 ? k : 0);
+                for (int step = 0; step < k && number > 0; step++) {
+                    Check.same("step " + step + " to " + halt + " in " + k, x.row(step), least >> k - 1 - step & 1);
+                }
+                Check.same("halfway to " + halt + " in " + k, x.been(k - k / 2), middle);
+            }
+        }
     }
 
     private static void nothingTold() {

@@ -343,6 +343,10 @@ public final class TermsEdgesTest {
         value("--r", 5);
         value("9--r", 14);
         value("9*--r", 45);
+        int[] signs = {4, 14, 4, 14, 4, 14, 4, 14};
+        for (int many = 1; many <= 8; many++) {
+            value("9" + "-".repeat(many) + "r", signs[many - 1]);
+        }
         value("9+2*-3", 3);
         value("-(r-9)", 4);
         value("-2*-3", 6);
@@ -661,6 +665,20 @@ public final class TermsEdgesTest {
         Check.row("two numbers", x, 0, 3);
         Check.same("none", x.fetch(0), 0);
         Check.row("none", x);
+        // Nothing is left of the row before, which has twelve numbers.
+        Looks.Call[] calls = {CoachesVote::run, y -> y.go(0, 0), y -> y.way(0, 0), CoachesVote::course, y -> y.ahead(1), y -> y.arrives(0),
+            y -> y.tips(0), y -> y.power(0), y -> y.lobby(0, 0), y -> y.seat(0), y -> y.reseat(1), y -> y.close(1), y -> y.fetch(0),
+            y -> Check.say(y, "").law(), y -> y.heads(1), y -> y.been(0), CoachesVote::ask, y -> y.odds(0, 0, 0), y -> y.bargain(1),
+            y -> y.nights(0, 1), y -> Check.say(y, "").night()};
+        int[] numbers = {3, 1, 1, 4, 3, 1, 1, 2, 1, 1, 2, 1, 0, 2, 1, 1, 1, 2, 2, 2, 2};
+        for (int i = 0; i < calls.length; i++) {
+            CoachesVote y = Check.told("2:b1-;a1-", "+", "0b1");
+            y.seen(12, 0, 1);
+            Check.same("one row", y.rows(), 1);
+            Check.same("of twelve", y.count(10), 12);
+            Check.yes("call " + i, calls[i].on(y) != -1);
+            Check.same("numbers told by call " + i, y.count(10), numbers[i]);
+        }
     }
 
     private static void bits() {

@@ -39,6 +39,16 @@ public final class VotesEdgesTest {
                 Check.same("the last", x.row(steps), to);
             }
         }
+        CoachesVote right = Check.told("9:-b9;-c9;-d9;-e9;-f9;-g9;-h9;-i9;-a9", "", "");
+        for (int from = 0; from < 9; from++) {
+            for (int to = 0; to < 9; to++) {
+                int steps = (to - from + 9) % 9;
+                Check.same("by right exits, " + from + " to " + to, right.way(from, to), 9 * steps);
+                for (int i = 0; i <= steps; i++) {
+                    Check.same("by right exits", right.row(i), (from + i) % 9);
+                }
+            }
+        }
         for (int straight = 1; straight <= 9; straight++) {
             CoachesVote y = Check.told("3:b" + straight + "c2;--;b3-", "", "");
             Check.same("straight in " + straight + ", or in 5", y.way(0, 1), Math.min(straight, 5));
@@ -134,7 +144,9 @@ public final class VotesEdgesTest {
     }
 
     private static void aheadAsRuns() {
-        Looks.State[] states = {CoachesVote::new, Looks::busy, () -> late(29), () -> Check.told(RING, "++a", "0a1;0c2;1b1;2c1")};
+        // In the last one most passengers are for right, but as many coaches for left.
+        Looks.State[] states = {CoachesVote::new, Looks::busy, () -> late(29), () -> Check.told(RING, "++a", "0a1;0c2;1b1;2c1"),
+            () -> Check.told(FORK, "++", "0b1;1c9")};
         for (Looks.State state : states) {
             CoachesVote runs = state.make();
             int before = Integer.bitCount(runs.count(7));
@@ -190,6 +202,9 @@ public final class VotesEdgesTest {
         CoachesVote ring = Check.told(RING, "+", "0c1");
         Check.same("two runs", ring.arrives(0), 2);
         Check.row("two runs", ring, 5);
+        CoachesVote right = Check.told("9:-b1;-c1;-d1;-e1;-f1;-g1;-h1;-i1;--", "+", "0i1");
+        Check.same("eight runs by right exits", right.arrives(0), 8);
+        Check.row("eight runs by right exits", right, 8);
     }
 
     private static void notInThirty() {
@@ -238,6 +253,12 @@ public final class VotesEdgesTest {
         tip("0d3;0c3", "r", 0b11);
         tip("0d3;0c4", "r", 0b10);
         tip("0d4;0c3", "r", 0b01);
+        // The first one tips it to stay alone, where others are: to right it could not.
+        tip("0b2;0b3;0d2", "r", 0b011);
+        tip("0c2;0c3;0d1", "r", 0b010);
+        tip("0c2;0c3;0d2", "r", 0b011);
+        tip("0c2;0c4;0d1", "r", 0b010);
+        tip("0c2;0c4;0d3", "r", 0b011);
         tip("0b1;0b1;0b1", "r", 0);
         tip("0b1;0b1", "r", 0b00);
         tip("0b1;0b2", "r", 0b10);
@@ -259,6 +280,12 @@ public final class VotesEdgesTest {
         CoachesVote x = Check.told(FORK, "+b", "1a3");
         Check.same("one that stands", x.tips(1), 0b1);
         Check.row("one that stands", x, 1);
+        CoachesVote each = Check.told(FORK, "++++++", "0b1;1c1;2d1;3b1;3b1;3b1;4c1;4c1;5d1;5d2");
+        int[] due = {0b0000000001, 0b0000000010, 0b0000000100, 0, 0b0011000000, 0b1000000000};
+        for (int coach = 0; coach < 6; coach++) {
+            Check.same("of coach " + coach, each.tips(coach), due[coach]);
+            Check.row("of coach " + coach, each, Integer.bitCount(due[coach]));
+        }
     }
 
     private static void tipsNoneSuch() {
@@ -305,6 +332,10 @@ public final class VotesEdgesTest {
         // What each wishes is of no matter; who stands or is out is in no set.
         power("0d1;1c1;2b9;0a9", 0, 1, 1, 2);
         power("0d1;1c1;2b9;0a9", 1, 1, 1, 2);
+        power("0d1;1d1", 0, 1, 1, 2);
+        power("0d2;1b1", 0, 2, 1, 1);
+        power("2b9;0b1;1b1", 1, 1, 1, 2);
+        power("0a9;0b1;1b1", 2, 1, 1, 2);
         CoachesVote x = Check.told(FORK, "+", "0b1");
         Check.say(x, "0").rule();
         Check.same("without votes", x.power(0), 0);
@@ -388,6 +419,15 @@ public final class VotesEdgesTest {
         lobby("0b2;0b2;0c3", "r", 2, 2, 0b011);
         lobby("0c1;0c2;0c2;0c1", "r", 0, 2, 0b0011);
         lobby("0c1;0c1;0c2;0c2", "r", 0, 2, 0b0101);
+        CoachesVote each = Check.told(FORK, "++++++", "0b1;1c1;2d1;3b1;3b1;3b1;4c1;4c1;5d1;5d2");
+        int[][] due = {{0, 1, 1}, {1, 0, 1}, {1, 1, 0}, {0, 0b11000, 0b11000}, {0b1000000, 0, 0b11000000}, {1 << 9, 1 << 9, 0}};
+        for (int coach = 0; coach < 6; coach++) {
+            for (int wish = 0; wish < 3; wish++) {
+                int who = coach < 3 ? due[coach][wish] << coach : due[coach][wish];
+                Check.same("coach " + coach + " for " + wish, each.lobby(coach, wish), Integer.bitCount(who));
+                Check.row("coach " + coach + " for " + wish, each, who);
+            }
+        }
         // Who has no VOTES is not won, and who is for it is not won again.
         lobby("0c1;0b2;0c3;0c3", "r-1", 0, 1, 0b0100);
     }
