@@ -980,7 +980,8 @@ public final class CoachesVote {
         }
 
         int digitAt(int p) {
-            return numberAt(p, '0', 10);
+            int digit = at(p) - '0';
+            return digit >= 0 && digit < 10 ? digit : NONE;
         }
     }
 
